@@ -484,12 +484,12 @@ public final class SnowByNumber {
 
     /** What a TEXT tells. */
     private static final class Told {
-        private int beams = 400;
-        private int roof = 60;
-        private int thaw = 5;
-        private int slip = 1;
-        private int more = 0;
-        private int fallCount = 0;
+        private int beams;
+        private int roof;
+        private int thaw;
+        private int slip;
+        private int more;
+        private int fallCount;
         private final int[] year = new int[MOST_FALLS];
         private final int[] inches = new int[MOST_FALLS];
         private final int[] heavy = new int[MOST_FALLS];
@@ -497,7 +497,7 @@ public final class SnowByNumber {
         private final int[] costOfYear = new int[YEARS];
 
         Told() {
-            Arrays.fill(costOfYear, 10);
+            forget();
         }
 
         void forget() {
