@@ -140,7 +140,7 @@ public final class SnowByNumber {
     }
 
     public int undo() {
-        return barn.saleCount == 0 ? NO : barn.takeSaleBack();
+        return barn.takeSaleBack();
     }
 
     public int swap(int i, int dust) {
@@ -678,10 +678,10 @@ public final class SnowByNumber {
             saleCount = MOST_SALES - 1;
         }
 
-        /** The last SALE is undone: its tenths; 0 without one. */
+        /** The last SALE is undone: its tenths; NO without one. */
         int takeSaleBack() {
             if (saleCount == 0) {
-                return 0;
+                return NO;
             }
             saleCount--;
             tenths[saleLayer[saleCount]] += saleTenths[saleCount];

@@ -166,6 +166,11 @@ public final class PromisesTest {
         due("fault() of t5;f0,20,1,", parts.fault(), 3);
         write(parts, "1;");
         due("fault() of t5;f0,20,1,1;", parts.fault(), NONE);
+        parts.wipe();
+        write(parts, "t005");
+        due("fault() of t005", parts.fault(), 0);
+        write(parts, ";");
+        due("fault() of t005;", parts.fault(), NONE);
         SnowByNumber x = laid("f9,3,3,3;", 1);
         write(x, "f8,1,1,1;");
         due("fault()", x.fault(), 9);
@@ -229,6 +234,10 @@ public final class PromisesTest {
     private static void nothingStays() {
         promise = 5;
         SnowByNumber x = laid("b999,99;f3,5,1,1;f3,5,1,2;f3,5,1,3;f4,5,1,4;t50;p3,0;s0;v9;", 4);
+        due("lay() of the same", x.lay(), 4);
+        for (int i = 1; i <= 4; i++) {
+            due("fall()", x.fall(), i);
+        }
         due("lay()", layAnew(x, "f3,5,1,1;f4,20,1,1;f5,20,1,1;f6,15,1,1;"), 4);
         due("falls(0, 4)", x.falls(0, 4), 10);
         due("winter(5)", x.winter(5), 4);
@@ -254,6 +263,7 @@ public final class PromisesTest {
         due("nearest(4, 1)", x.nearest(4, 1), 3);
         due("moved(50)", x.moved(50), 1);
         due("odds(9, 1, 3, 1)", x.odds(9, 1, 3, 1), 1);
+        due("odds(9, 1, 4, 0)", x.odds(9, 1, 4, 0), 0);
         due("letGo(1, 1, 0)", x.letGo(1, 1, 0), 1);
         due("letGo(999, 99, 2)", x.letGo(999, 99, 2), 45);
         due("lay()", layAnew(x, "f3,5,1,1;t1;p3,5;s3;"), 1);
@@ -552,6 +562,9 @@ public final class PromisesTest {
         dueLetGo(empty, 999, 3, 0, 2, 30);
         empty.sell(0, 10);
         dueLetGo(empty, 999, 1, 4, 0, 0);
+        SnowByNumber among = laid("f0,1,1,0;f1,1,1,0;f1,1,1,0;f2,9,1,0;", 4);
+        among.sell(1, 10);
+        dueLetGo(among, 999, 2, 8, 2, 20);
     }
 
     private static void dueOdds(SnowByNumber x, int dust, int heavy, int year, int above, int below) {
