@@ -226,6 +226,17 @@ public final class BarnBoundsTest {
         Cases.due("firstOut() of the last that is left", Cases.laid("b99,11;" + TWELVE, 11).firstOut(), 11);
     }
 
+    static void p09_firstOut_theNextIfTheBarnIsOverItsRoof() {
+        SnowByNumber x = Cases.laid("b999,2;f0,2,1,0;f0,1,1,0;f0,1,1,0;", 1);
+        x.sell(0, 10);
+        Cases.due("firstOut()", x.firstOut(), 2);
+        x.fall();
+        x.undo();
+        Cases.due("firstOut() of 30 under 20", x.firstOut(), 2);
+        x.sell(0, 20);
+        Cases.due("firstOut() of 10 under 20", x.firstOut(), NONE);
+    }
+
     static void p09_firstOut_highOf10WAndATenthMore() {
         SnowByNumber x = Cases.laid("b999,4;f0,3,1,0;f0,1,1,0;f0,1,1,0;", 1);
         Cases.sellDownTo(x, 0, 21);

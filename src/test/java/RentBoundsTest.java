@@ -162,6 +162,15 @@ public final class RentBoundsTest {
         SnowByNumber x = Cases.laid("b12,12;" + TWELVE, 12);
         Cases.due("winter(0) of a full BARN", x.winter(0), 12);
         Cases.due("ten(0) of a full BARN", x.ten(0), 10);
+        x = Cases.laid("b999,5;f0,3,1,0;f0,3,1,0;f0,1,1,0;", 1);
+        Cases.due("winter(0) of 1 LAYER", x.winter(0), 1);
+        Cases.due("ten(0) of 1 LAYER", x.ten(0), 0);
+        Cases.sellDownTo(x, 0, 0);
+        Cases.due("winter(0) of an empty LAYER", x.winter(0), 1);
+        Cases.due("fall()", x.fall(), 2);
+        Cases.due("fall()", x.fall(), 3);
+        Cases.due("winter(0) with all in", x.winter(0), 1);
+        Cases.due("ten(0) with all in", x.ten(0), 0);
         x = Cases.busy();
         x.winter(5);
         x.ten(5);

@@ -405,6 +405,22 @@ public final class TextBoundsTest {
         Cases.dueFault("v1;".repeat(133), NONE);
     }
 
+    static void p04_fault_laysNothing() {
+        SnowByNumber x = Cases.laid("b99,9;t2;p0,4;s3;v1;f0,7,1,1;", 1);
+        x.mark(1);
+        x.keep();
+        x.wipe();
+        Cases.write(x, "b1,1;t9;p0,9;s0;v9;f0,2,2,2;f0,3,3,3;");
+        Cases.due("fault()", x.fault(), NONE);
+        Cases.dueCounts(x, 1, 1, 70, 70, 0, 0, 1, 1, 37);
+        Cases.dueFalls(x, 0, 0, 7, 1, 1, 4);
+        Cases.due("falls(1, 0)", x.falls(1, 0), BAD);
+        Cases.due("winter(0): 1 modulo 2 more", x.winter(0), 1);
+        Cases.due("thaw(0)", x.thaw(0), 2);
+        Cases.due("likeliest(9, 9)", x.likeliest(9, 9), 0);
+        Cases.due("fall()", x.fall(), NO);
+    }
+
     static void p04_fault_changesNothing() {
         SnowByNumber x = Cases.busy();
         Cases.due("fault()", x.fault(), 3);
@@ -534,13 +550,38 @@ public final class TextBoundsTest {
         Cases.dueCounts(x, 7, 0, 0, 0, 0, 0, 0, 0, Cases.SEVEN.length());
     }
 
-    static void p05_lay_nothingOfTheTextBeforeCounts() {
-        SnowByNumber x = Cases.laid("b1,1;t50;p0,99;s0;v9;f0,1,1,1;", 0);
-        Cases.due("lay()", Cases.layAnew(x, "f0,20,4,1;f0,20,6,1;f0,20,1,2;"), 3);
-        Cases.due("falls(0, 4)", x.falls(0, 4), 10);
-        Cases.due("winter(5)", x.winter(5), 3);
+    static void p05_lay_nothingOfATextBeforeCounts() {
+        String first = "b1,1;t50;p0,99;s0;v9;f0,1,1,1;f0,1,1,1;f0,1,1,1;f9,1,1,1;";
+        SnowByNumber x = Cases.laid(first, 0);
+        for (int k = 0; k < 3; k++) {
+            Cases.due("lay()", Cases.layAnew(x, "f0,20,4,1;f0,20,6,1;f0,20,1,2;"), 3);
+            Cases.due("falls(0, 4)", x.falls(0, 4), 10);
+            for (int z = 0; z < 10; z++) {
+                Cases.due("winter(" + z + ")", x.winter(z), 3);
+            }
+            Cases.due("fall()", x.fall(), 1);
+            Cases.due("fall()", x.fall(), 2);
+            Cases.due("thaw(0)", x.thaw(0), 5);
+            Cases.due("likeliest(9, 9)", x.likeliest(9, 9), 0);
+            Cases.due("fall()", x.fall(), 3);
+            Cases.due("fall()", x.fall(), NO);
+            if (k == 0) {
+                // Twice, so that it has been read wherever a TEXT is read to.
+                Cases.layAnew(x, first);
+                Cases.layAnew(x, first);
+            }
+        }
+    }
+
+    static void p05_lay_nothingOfATextWithAFaultCounts() {
+        SnowByNumber x = Cases.told("b1,1;t50;p0,99;s0;v9;f0,1,1,1;x");
+        Cases.due("lay()", x.lay(), NO);
+        Cases.due("lay()", Cases.layAnew(x, "f0,20,1,1;"), 1);
+        Cases.due("lay()", Cases.layAnew(x, "b1,1;t50;p0,99;s0;v9;f0,1,1,1;f0,0,1,1;"), NO);
+        Cases.dueFalls(x, 0, 0, 20, 1, 1, 10);
+        Cases.due("count(0)", x.count(0), 1);
+        Cases.due("winter(0)", x.winter(0), 1);
         Cases.due("fall()", x.fall(), 1);
-        Cases.due("fall()", x.fall(), 2);
         Cases.due("thaw(0)", x.thaw(0), 5);
         Cases.due("likeliest(9, 9)", x.likeliest(9, 9), 0);
     }

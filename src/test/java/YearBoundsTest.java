@@ -4,6 +4,19 @@ public final class YearBoundsTest {
     private static final String TWELVE = "f0,1,1,0;f1,1,1,1;f2,1,1,2;f3,1,1,3;f4,1,1,4;f5,1,1,5;f6,1,1,6;f7,1,1,7;"
         + "f8,1,1,8;f9,1,1,9;f10,1,1,8;f11,1,1,7;";
 
+    /** LAYERS of 200 tenths, heavy 9, all in one YEAR and, by SALES undone, far over roof and beams. */
+    private static SnowByNumber overfull(int layers) {
+        SnowByNumber x = Cases.laid("b999,99;" + "f7,20,9,0;".repeat(12), 4);
+        for (int n = 5; n <= layers; n++) {
+            Cases.due("sell", x.sell(n - 5, 200), 200);
+            Cases.due("fall()", x.fall(), n);
+        }
+        for (int n = 5; n <= layers; n++) {
+            Cases.due("undo()", x.undo(), 200);
+        }
+        return x;
+    }
+
     // ---- promise 15: letGo
 
     private static void dueLetGo(SnowByNumber x, int l, int w, int set, int years, int tenths) {
@@ -136,6 +149,30 @@ public final class YearBoundsTest {
         dueLetGo(x, 1, 1, 0, 0, 0);
     }
 
+    static void p15_letGo_anEmptyLayerOfAYearThatHasOthers() {
+        SnowByNumber x = Cases.laid("f0,1,1,0;f0,1,1,0;f1,1,1,0;f1,2,1,0;f1,1,1,0;", 5);
+        Cases.sellDownTo(x, 0, 0);
+        Cases.sellDownTo(x, 2, 0);
+        dueLetGo(x, 999, 4, 0, 2, 40);
+        dueLetGo(x, 999, 3, 16, 2, 30);
+        dueLetGo(x, 999, 2, 8, 2, 20);
+        dueLetGo(x, 999, 1, 10, 1, 10);
+    }
+
+    static void p15_letGo_aTenthIsSome() {
+        SnowByNumber x = Cases.laid("f0,2,1,0;f1,1,1,0;", 2);
+        Cases.sellDownTo(x, 1, 1);
+        dueLetGo(x, 999, 2, 2, 1, 20);
+        Cases.sellDownTo(x, 0, 19);
+        dueLetGo(x, 999, 2, 0, 2, 20);
+    }
+
+    static void p15_letGo_aBarnFarOverItsRoof() {
+        dueLetGo(overfull(5), 999, 99, 1, 1, 800);
+        dueLetGo(overfull(12), 999, 99, 255, 1, 800);
+        dueLetGo(overfull(12), 1, 1, 4095, 0, 0);
+    }
+
     static void p15_letGo_changesNothing() {
         SnowByNumber x = Cases.busy();
         x.letGo(1, 1, 0);
@@ -197,6 +234,15 @@ public final class YearBoundsTest {
         dueOdds(x, 2, 3, 6, 0, 1);
         dueOdds(x, 0, 9, 5, 1, 1);
         dueOdds(x, 0, 9, 0, 0, 1);
+    }
+
+    static void p16_odds_lowestTermsThatAreSoAlready() {
+        SnowByNumber x = Cases.laid("f5,1,2,0;f6,1,2,1;", 2);
+        Cases.sellDownTo(x, 0, 1);
+        Cases.sellDownTo(x, 1, 2);
+        // 1 by 9 and 1, 2 by 1 and 1
+        dueOdds(x, 0, 3, 5, 9, 11);
+        dueOdds(x, 0, 3, 6, 2, 11);
     }
 
     static void p16_odds_theWeightsOfAYearTogether() {
@@ -550,6 +596,16 @@ public final class YearBoundsTest {
         dueOdd(x, "14", 5);
     }
 
+    static void p21_odd_aTenthIsSome() {
+        SnowByNumber x = Cases.laid(TWELVE, 3);
+        Cases.sellDownTo(x, 1, 1);
+        dueOdd(x, "02", 1);
+        dueOdd(x, "019", 2);
+        Cases.sellDownTo(x, 1, 0);
+        dueOdd(x, "01", 2);
+        dueOdd(x, "029", 3);
+    }
+
     static void p21_odd_thoseThatAreAlikeFromTheLowestOn() {
         SnowByNumber x = Cases.laid("f0,1,1,1;f0,1,1,1;f0,1,1,2;f0,1,1,1;f0,1,1,1;", 5);
         dueOdd(x, "1211", 1);
@@ -601,6 +657,11 @@ public final class YearBoundsTest {
         Cases.due("wish(7)", x.wish(7), 960);
         Cases.sellDownTo(x, 11, 1);
         Cases.due("wish(7)", x.wish(7), 881);
+    }
+
+    static void p22_wish_12LayersOf200() {
+        Cases.due("wish(7)", overfull(12).wish(7), 2400);
+        Cases.due("nearest(0, 999)", overfull(12).nearest(0, 999), 7);
     }
 
     static void p22_wish_badChangesNothing() {
@@ -718,6 +779,14 @@ public final class YearBoundsTest {
         Cases.due("moved(20) of 11", Cases.laid(TWELVE, 11).moved(20), 11);
     }
 
+    static void p24_moved_moreThanTheHeaviestLoad() {
+        Cases.due("moved(9990) of 9000", overfull(5).moved(9990), 1);
+        Cases.due("moved(9990) of 10800", overfull(6).moved(9990), 3);
+        Cases.due("moved(9990) of 21600", overfull(12).moved(9990), 5);
+        Cases.due("moved(1800) of 21600", overfull(12).moved(1800), 23);
+        Cases.due("moved(1799) of 21600", overfull(12).moved(1799), NONE);
+    }
+
     static void p24_moved_noneIfOneIsHeavier() {
         SnowByNumber x = Cases.laid("f0,1,1,0;f0,3,7,0;f0,1,1,0;", 3);
         Cases.due("moved(209)", x.moved(209), NONE);
@@ -756,6 +825,20 @@ public final class YearBoundsTest {
         Cases.due("moved(20)", x.moved(20), 3);
         Cases.sellDownTo(x, 0, 0);
         Cases.due("moved(20) with the lowest empty", x.moved(20), 1);
+    }
+
+    static void p24_moved_aTenthIsSome() {
+        SnowByNumber x = Cases.laid("f0,1,1,0;f0,1,1,0;", 1);
+        Cases.sellDownTo(x, 0, 1);
+        Cases.due("moved(10) of 1", x.moved(10), 1);
+        Cases.due("fall()", x.fall(), 2);
+        Cases.due("moved(10) of 1, 10", x.moved(10), 3);
+        Cases.due("moved(11) of 1, 10", x.moved(11), 1);
+        SnowByNumber top = Cases.laid("f0,1,1,0;f0,1,1,0;", 2);
+        Cases.sellDownTo(top, 1, 1);
+        Cases.due("moved(10) of 10, 1", top.moved(10), 3);
+        Cases.sellDownTo(top, 1, 0);
+        Cases.due("moved(10) of 10, 0", top.moved(10), 1);
     }
 
     static void p24_moved_badAheadOfNone() {
