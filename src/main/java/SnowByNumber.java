@@ -703,11 +703,11 @@ public final class SnowByNumber {
          */
         void choose(int k, Barn barn, Told told) {
             weigh(k, barn, told);
-            lost = Integer.MAX_VALUE;
             for (int zeros = k; zeros >= 0; zeros--) {
                 for (int ones = k - zeros; ones >= 0; ones--) {
                     int sum = lostBy[0][zeros] + lostBy[1][ones] + lostBy[2][k - zeros - ones];
-                    if (sum < lost) {
+                    // The row of DOOR 0 alone is looked at first; what an earlier call found is none to beat.
+                    if (zeros == k || sum < lost) {
                         lost = sum;
                         first = zeros;
                         second = ones;

@@ -19,11 +19,14 @@ public final class FaceTest {
         "int odds(int,int,int,int)", "int likeliest(int,int)", "int mark(int)", "int noMarks()", "int far()",
         "int odd()", "int wish(int)", "int nearest(int,int)", "int moved(int)", "long rent(int)", "int winter(int)",
         "int ten(int)", "int keep()", "int back()", "int count(int)"};
-    /** What LANGUAGE.md rules out in so many words, and answers by what the machine throws. */
+    /** What LANGUAGE.md rules out in so many words, and what no promise needs. */
     private static final String[] FORBIDDEN = {"\\bfinally\\b", "\\bassert\\b", "\\bsynchronized\\b", "::", "\\w+Exact\\b",
         "System\\.(?!arraycopy)", "\\bRandom\\b", "\\bThread\\b", "import (?!java\\.util\\.)", "\\bpackage\\b",
         "\\bprotected\\b", "\\bgetMessage\\b", "Math\\.random", "\\b(int|boolean|String)\\s+(hashCode|equals|toString)\\s*\\(",
-        "catch\\s*\\([^)]*(ArrayIndex|NullPointer|ClassCast|NegativeArray|ArrayStore|Runtime|Throwable|\\bException)"};
+        // Of the library's number classes functions alone, of Arrays three; no lambda; nothing thrown, for no promise asks it.
+        "\\b(Integer|Long|Math|Short|Byte|Character|Double|Float)\\.\\w+\\b(?!\\s*\\()",
+        "\\bArrays\\.(?!fill|copyOf|copyOfRange)", "->", "\\bthrows?\\b", "\\bcatch\\b"};
+    private static final int MOST_LINES = 60;
     private static int wrong = 0;
 
     private static void due(String what, Object got, Object want) {
@@ -99,6 +102,31 @@ public final class FaceTest {
             due("a find of " + forbidden, found.find() ? found.group() : "none", "none");
         }
         due("signs beyond 127", source.chars().anyMatch(c -> c > 127), false);
+        noCallMakesAnObject(code);
+        methodsAreShort(source);
+    }
+
+    /** All calls of a run live in one room: what is made is made with the object, by its fields. */
+    private static void noCallMakesAnObject(String code) {
+        for (String line : code.split("\n")) {
+            if (Pattern.compile("\\bnew\\b").matcher(line).find()) {
+                due("a field's own: " + line.strip(), line.matches("\\s+private (final )?[\\w\\[\\]]+ \\w+ = new [^;]+;"), true);
+            }
+        }
+    }
+
+    private static void methodsAreShort(String source) {
+        String[] lines = source.split("\n");
+        for (int from = 0; from < lines.length; from++) {
+            if (lines[from].matches("( {4}| {8})\\w[^=;]*\\) \\{")) {
+                String end = lines[from].replaceAll("\\S.*", "") + "}";
+                int to = from;
+                while (to < lines.length && !lines[to].equals(end)) {
+                    to++;
+                }
+                due("short: " + lines[from].strip(), to - from < MOST_LINES, true);
+            }
+        }
     }
 
     public static void main(String[] args) throws IOException {
